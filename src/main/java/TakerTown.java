@@ -112,7 +112,7 @@ public final class TakerTown {
             return text.faultAnswer();
         }
         history = new Kept(now, history);
-        plan.perform(studio, now);
+        plan.perform(studio, now, 0, plan.length, 0);
         refusedSteps = plan.refused;
         return plan.done;
     }
@@ -300,12 +300,11 @@ public final class TakerTown {
 
     public int unknown(int what) throws IllegalArgumentException {
         needRange(what, 3);
-        clues.sum();
         switch (what) {
-            case 0: return clues.fitting;
-            case 1: return clues.leastFace;
-            case 2: return clues.onAll;
-            default: return clues.onNone;
+            case 0: return Long.bitCount(clues.fitting);
+            case 1: return clues.leastFace();
+            case 2: return clues.sureMarks(false);
+            default: return clues.sureMarks(true);
         }
     }
 
@@ -680,15 +679,20 @@ public final class TakerTown {
         }
 
         boolean accept(int sign) {
-            if (!nextIs(sign)) {
-                return false;
+            boolean there = nextIs(sign);
+            if (there) {
+                place++;
             }
-            place++;
-            return true;
+            return there;
         }
 
         boolean need(int sign) {
-            return accept(sign) || fail(MISPLACED, place);
+            skipBlanks();
+            if (place >= length || bytes[place] != sign) {
+                return fail(MISPLACED, place);
+            }
+            place++;
+            return true;
         }
 
         /** The number there, or NONE and a fault; start is its first byte. */
@@ -1012,11 +1016,8 @@ public final class TakerTown {
                     && text.need(']') && put(join);
         }
 
+        /** What comes out for these, as a face; 0 for a row of codes that no reader makes. */
         int faceFor(int[] given) {
-            return Math.max(0, Math.min(FACES - 1, value(given)));
-        }
-
-        private int value(int[] given) {
             int top = 0;
             for (int i = 0; i < length; i++) {
                 int code = codes[i];
@@ -1035,7 +1036,7 @@ public final class TakerTown {
                     top++;
                 }
             }
-            return top == 1 ? stack[0] : 0;
+            return top == 1 ? Math.max(0, Math.min(FACES - 1, stack[0])) : 0;
         }
 
         private static int joined(int code, int one, int other) {
@@ -1208,6 +1209,9 @@ public final class TakerTown {
 
         boolean read(Text text, int persons) {
             length = 0;
+            begun = 0;
+            done = 0;
+            refused = 0;
             return readSteps(text, persons, 0);
         }
 
@@ -1271,21 +1275,15 @@ public final class TakerTown {
             return right;
         }
 
-        void perform(Studio studio, State state) {
-            begun = 0;
-            done = 0;
-            refused = 0;
-            performSteps(studio, state, 0, length, 0);
-        }
-
-        private void performSteps(Studio studio, State state, int from, int to, int open) {
+        /** Does the steps from one on to another that were read; open is how many agains these stand in. */
+        void perform(Studio studio, State state, int from, int to, int open) {
             for (int i = from; i < to && i < MOST_TOLD && begun < MOST_BEGUN; i++) {
                 begun++;
                 if (kind[i] != AGAIN) {
                     performStep(studio, state, i);
                 } else if (open < MOST_OPEN) {
                     for (int time = 0; time < one[i] && begun < MOST_BEGUN; time++) {
-                        performSteps(studio, state, i + 1, two[i], open + 1);
+                        perform(studio, state, i + 1, two[i], open + 1);
                     }
                     i = Math.max(i, two[i] - 1);
                 }
@@ -1492,10 +1490,8 @@ public final class TakerTown {
         final int[] draft;
         final int[] tally;
         int lines;
-        int fitting;
-        int leastFace;
-        int onAll;
-        int onNone;
+        /** A bit for each face by which all that is said is right. */
+        long fitting;
 
         Clues(Folk folk) {
             this.folk = folk;
@@ -1506,10 +1502,11 @@ public final class TakerTown {
         }
 
         void clear() {
-            lines = 0;
             for (int p = 0; p < MOST_PERSONS; p++) {
                 said[p] = NONE;
             }
+            lines = 0;
+            fitting = -1L;
         }
 
         boolean read(Text text) {
@@ -1517,7 +1514,7 @@ public final class TakerTown {
                 draft[p] = NONE;
             }
             int read = 0;
-            // A line beyond the persons there are must name one twice, and ends the loop by its fault.
+            // A line beyond the persons there are names one twice, or none, and its fault ends the loop.
             while (read <= MOST_PERSONS && !text.atEnd()) {
                 if (!readLine(text)) {
                     return false;
@@ -1526,6 +1523,12 @@ public final class TakerTown {
             }
             System.arraycopy(draft, 0, said, 0, MOST_PERSONS);
             lines = read;
+            fitting = 0L;
+            for (int face = 0; face < FACES; face++) {
+                if (agrees(face)) {
+                    fitting |= 1L << face;
+                }
+            }
             return true;
         }
 
@@ -1545,7 +1548,7 @@ public final class TakerTown {
             return MARKS - Integer.bitCount(folk.face[person] ^ face);
         }
 
-        private boolean fits(int face) {
+        private boolean agrees(int face) {
             for (int p = 0; p < folk.size; p++) {
                 if (said[p] != NONE && said[p] != inCommon(p, face)) {
                     return false;
@@ -1554,21 +1557,28 @@ public final class TakerTown {
             return true;
         }
 
-        void sum() {
-            fitting = 0;
-            leastFace = NONE;
-            int on = FACES - 1;
-            int off = FACES - 1;
+        boolean fits(int face) {
+            return (fitting >> face & 1L) == 1L;
+        }
+
+        int leastFace() {
             for (int face = 0; face < FACES; face++) {
                 if (fits(face)) {
-                    leastFace = fitting == 0 ? face : leastFace;
-                    fitting++;
-                    on &= face;
-                    off &= ~face;
+                    return face;
                 }
             }
-            onAll = fitting == 0 ? 0 : on;
-            onNone = fitting == 0 ? 0 : off;
+            return NONE;
+        }
+
+        /** Marks that all fitting faces have or, turned, that none of them has. */
+        int sureMarks(boolean turned) {
+            int marks = fitting == 0L ? 0 : FACES - 1;
+            for (int face = 0; face < FACES; face++) {
+                if (fits(face)) {
+                    marks &= turned ? ~face : face;
+                }
+            }
+            return marks;
         }
 
         int worstBy(int person) {
@@ -1578,9 +1588,9 @@ public final class TakerTown {
             int worst = 0;
             for (int face = 0; face < FACES; face++) {
                 if (fits(face)) {
-                    int common = inCommon(person, face);
-                    tally[common]++;
-                    worst = Math.max(worst, tally[common]);
+                    int alike = inCommon(person, face);
+                    tally[alike]++;
+                    worst = Math.max(worst, tally[alike]);
                 }
             }
             return worst;
@@ -1589,59 +1599,83 @@ public final class TakerTown {
 
     /** The first plates as papers: who carries which, so that most are carried. */
     private static final class Carriers {
-        private static final int SETS = 1 << PAPER_PLATES;
-
         final Folk folk;
         final int[] plateOf;
-        /** By person and set of plates that others carry: the most that he and all behind him can carry. */
-        final int[][] most;
+        final int[] may;
+        final int[] holder;
         int carried;
+        private int tried;
 
         Carriers(Folk folk) {
             this.folk = folk;
             plateOf = new int[MOST_PERSONS];
-            most = new int[MOST_PERSONS + 1][SETS];
+            may = new int[MOST_PERSONS];
+            holder = new int[PAPER_PLATES];
         }
 
         void match(State state) {
             int plates = Math.min(PAPER_PLATES, state.hanging);
-            for (int p = folk.size - 1; p >= 0; p--) {
-                for (int used = 0; used < 1 << plates; used++) {
-                    int plate = choice(state, plates, p, used);
-                    most[p][used] = after(p, used, plate);
-                }
-            }
-            walk(state, plates);
-        }
-
-        private void walk(State state, int plates) {
-            carried = 0;
-            int used = 0;
             for (int p = 0; p < folk.size; p++) {
-                plateOf[p] = choice(state, plates, p, used);
+                may[p] = mayCarry(state, plates, p);
+            }
+            int free = (1 << plates) - 1;
+            carried = mostFrom(0, free);
+            int left = carried;
+            for (int p = 0; p < folk.size; p++) {
+                plateOf[p] = firstFor(p, free, left);
                 if (plateOf[p] != NONE) {
-                    used |= 1 << plateOf[p];
-                    carried++;
+                    free &= ~(1 << plateOf[p]);
+                    left--;
                 }
             }
         }
 
-        /** The first plate by which most are carried; NONE only if none is better than every plate. */
-        private int choice(State state, int plates, int p, int used) {
-            int best = NONE;
+        private int mayCarry(State state, int plates, int p) {
+            int bits = 0;
             for (int i = 0; i < plates; i++) {
-                boolean may = (used >> i & 1) == 0 && folk.alike(folk.face[p], state.faceOn(i));
-                if (may && (best == NONE || after(p, used, i) > after(p, used, best))) {
-                    best = i;
+                if (folk.alike(folk.face[p], state.faceOn(i))) {
+                    bits |= 1 << i;
                 }
             }
-            return best != NONE && after(p, used, best) >= after(p, used, NONE) ? best : NONE;
+            return bits;
         }
 
-        private int after(int p, int used, int plate) {
-            // Behind the last person nobody carries: that row stays 0.
-            int[] behind = most[p + 1 < folk.size ? p + 1 : MOST_PERSONS];
-            return plate == NONE ? behind[used] : 1 + behind[used | 1 << plate];
+        /** The first plate with which he and those behind him still carry as many as they can. */
+        private int firstFor(int p, int free, int left) {
+            for (int i = 0; i < PAPER_PLATES; i++) {
+                if ((may[p] & free & 1 << i) != 0 && 1 + mostFrom(p + 1, free & ~(1 << i)) == left) {
+                    return i;
+                }
+            }
+            return NONE;
+        }
+
+        private int mostFrom(int first, int free) {
+            for (int i = 0; i < PAPER_PLATES; i++) {
+                holder[i] = NONE;
+            }
+            int many = 0;
+            for (int p = first; p < folk.size; p++) {
+                tried = ~free;
+                if (findPlate(p, 0)) {
+                    many++;
+                }
+            }
+            return many;
+        }
+
+        /** Gives him a plate, others moving on to other plates if need be; each is tried once, so it goes no deeper than there are plates. */
+        private boolean findPlate(int p, int depth) {
+            for (int i = 0; i < PAPER_PLATES && depth <= PAPER_PLATES; i++) {
+                if ((may[p] & ~tried & 1 << i) != 0) {
+                    tried |= 1 << i;
+                    if (holder[i] == NONE || findPlate(holder[i], depth + 1)) {
+                        holder[i] = p;
+                        return true;
+                    }
+                }
+            }
+            return false;
         }
     }
 
