@@ -163,6 +163,8 @@ public final class PromisesTest {
         townFault("like 1;;", -9, 7);
         townFault("like 1; persons 1;", -9, 8);
         townFault("Like 1;", -9, 0);
+        townFault("like 1; likez 1;", -9, 8);
+        townFault("like/1;", -9, 4);
         townFault("like 1;\u00e9", -9, 7);
         townFault("like -1;", -9, 5);
         townFault("person 1 1 1;".repeat(8) + " person 99;", -7, 105);
@@ -257,6 +259,11 @@ public final class PromisesTest {
         due("years", work(x, "again 30[year;];again 30[year;];"), 50);
         due("refused from 200 on", x.told(5), 10);
         due("year", x.told(2), 200);
+        due("as many steps as can be told", work(four(), "year;".repeat(30)), 30);
+        due("a year that is one too many", work(four(), "year;".repeat(29) + "year"), -9);
+        TakerTown last = townOf("person 1 1 1;person 2 2 2;");
+        due("the last person", work(last, "take 1 1 5;mood 1 9;take 1 0 0;"), 3);
+        due("an again at the 200th step", work(four(), "again 30[mood 0 1;mood 0 2;];".repeat(3) + "again 15[year;];again 1[year;];year;"), 195);
     }
 
     private static void workTexts() {
@@ -423,7 +430,9 @@ public final class PromisesTest {
         due("unlike", x.unlike(5, 40), 4);
         due("all", x.unlike(63, 0), 6);
         due("none", x.unlike(9, 9), 0);
+        due("all", x.unlike(0, 63), 6);
         bad("64", () -> x.unlike(64, 0));
+        bad("64", () -> x.unlike(0, 64));
         bad("-1", () -> x.unlike(0, -1));
     }
 
@@ -443,6 +452,9 @@ public final class PromisesTest {
         due("none", x.mistaken(), -1);
         work(x, "take 1 0 0;take 0 2 0;");
         due("mistaken", x.mistaken(), 2);
+        TakerTown y = four();
+        work(y, "take 0 2 0;");
+        due("the very first", y.mistaken(), 0);
     }
 
     static void promise18() {
@@ -503,6 +515,7 @@ public final class PromisesTest {
         due("who", x.who(40, 3), 4);
         law(x, "33");
         due("all but shy ones", x.who(33, 1), 14);
+        due("nobody", x.who(63, 1), 0);
         bad("64", () -> x.who(64, 0));
         bad("-1", () -> x.who(-1, 0));
         none("4", () -> x.who(64, 4));
@@ -515,6 +528,8 @@ public final class PromisesTest {
         due("least bits", x.made(47), 6);
         due("nobody", x.made(0), 0);
         due("none", x.made(1), -1);
+        due("none", x.made(63), -1);
+        due("all", townOf("person 1 0 0;person 2 0 0;person 60 0 0;").made(63), 7);
         bad("64", () -> x.made(64));
         bad("-1", () -> x.made(-1));
     }
@@ -562,6 +577,10 @@ public final class PromisesTest {
         due("alike to two", x.papers(), 2);
         work(x, "take 1 1 0;take 1 1 0;take 1 1 0;take 1 1 0;take 1 1 0;take 2 3 0;take 3 3 0;");
         due("only the first eight", x.papers(), 2);
+        TakerTown y = townOf("person 9 0 0;".repeat(8) + "like 6;");
+        work(y, "again 9[take 0 0 0;];");
+        due("all eight", y.papers(), 8);
+        for (int p = 0; p < 8; p++) due("paper " + p, y.paper(p), p);
     }
 
     static void promise27() {
@@ -594,6 +613,7 @@ public final class PromisesTest {
         bad("k", () -> x.bids(10, 0, 0, 0));
         bad("v", () -> x.bids(0, 41, 0, 0));
         bad("w", () -> x.bids(0, 0, -1, 0));
+        bad("w", () -> x.bids(0, 0, 41, 0));
         bad("what", () -> x.bids(0, 0, 0, 3));
     }
 
@@ -619,6 +639,9 @@ public final class PromisesTest {
         work(x, "take 0 0 0;take 0 0 0;take 0 0 0;take 3 0 1;take 3 0 1;take 2 0 1;take 2 0 1;burn 0;");
         due("the first", x.busiest(0), 2);
         due("how many", x.busiest(1), 2);
+        work(x, "take 0 0 3;take 0 0 3;take 0 0 3;");
+        due("the first of all", x.busiest(0), 0);
+        due("how many", x.busiest(1), 3);
         bad("2", () -> x.busiest(2));
         bad("-1", () -> x.busiest(-1));
     }
@@ -680,6 +703,10 @@ public final class PromisesTest {
         TakerTown y = townOf("person 0 0 3;person 0 0 0;person 0 0 0;");
         due("price", y.cheapest(7, 0), 0);
         due("least bits", y.cheapest(7, 1), 2);
+        TakerTown z = townOf("person 1 0 3;person 6 0 5;person 56 0 7;like 0;");
+        due("all of them", z.cheapest(7, 0), 15);
+        due("all of them", z.cheapest(7, 1), 7);
+        due("all of them, too", z.fewest(7), 7);
         law(y, "63");
         due("none", y.cheapest(1, 0), -1);
         due("none", y.cheapest(1, 1), -1);
@@ -704,6 +731,8 @@ public final class PromisesTest {
         due("never", x.moodFor(0, 1), -1);
         due("one", x.moodFor(1, 2), 1);
         due("three", x.moodFor(0, 2), 3);
+        law(x, "sitter * (mood / 9)");
+        due("nine", x.moodFor(1, 0), 9);
         due("mood stays", x.person(0, 3), 9);
         none("a", () -> x.moodFor(4, 0));
         none("b", () -> x.moodFor(0, 4));
@@ -807,6 +836,8 @@ public final class PromisesTest {
         due("three", x.image(), 3);
         due("no more", x.image(), -1);
         due("count", x.count(0), 3);
+        due("room again", x.restore(), 2);
+        due("three", x.image(), 3);
     }
 
     static void promise44() {
