@@ -290,11 +290,13 @@ public final class PromisesTest {
 
     private static void workLimit() {
         TakerTown x = four();
-        for (int i = 0; i < 16; i++) due("work", x.work(0), 0);
+        for (int i = 0; i < 15; i++) due("work", x.work(0), 0);
+        due("the 16th", work(x, "burn 0;"), 0);
         due("a fault", law(x, "1 1"), -9);
         due("the 17th", work(x, "nothing"), -20);
         due("no fault", x.fault(), -1);
         due("the tape is empty", x.count(1), 0);
+        due("refused steps stay", x.told(5), 1);
         bad("work(1)", () -> x.work(1));
         due("undo", x.undo(), 15);
         due("again the 16th", work(x, "take 0 0 0;"), 1);
