@@ -1,72 +1,15 @@
 import java.lang.reflect.Method;
-import java.util.NoSuchElementException;
 
 /** For each promise of the document what it says, at its edges, and for wrong inputs; promiseN tests promise N. */
-public final class PromisesTest {
-    interface Call { int answer(); }
-
-    private static final String FOUR = "person 5 3 10;person 7 0 4;person 40 9 25;person 42 1 25;shy 0 1;shy 2 2;like 1;";
-    private static int wrong;
-    private static String current = "";
-
+public final class PromisesTest extends Check {
     public static void main(String[] args) throws Exception {
         for (int n = 1; n <= 46; n++) {
             current = "promise " + n;
             Method test = PromisesTest.class.getDeclaredMethod("promise" + n);
             test.invoke(null);
         }
-        System.out.println(wrong == 0 ? "all 46 promises hold" : wrong + " answers are wrong");
-        if (wrong != 0) System.exit(1);
+        end("all 46 promises hold");
     }
-
-    private static void due(String what, int got, int want) {
-        if (got != want) {
-            wrong++;
-            System.out.println(current + ": " + what + " answered " + got + ", due is " + want);
-        }
-    }
-
-    private static void refused(String what, Class<?> why, Call call) {
-        try {
-            due(what + " is not refused", call.answer(), Integer.MIN_VALUE);
-        } catch (NoSuchElementException | IllegalArgumentException e) {
-            due(what + " is refused by " + e.getClass(), e.getClass() == why ? 1 : 0, 1);
-        }
-    }
-
-    private static void none(String what, Call call) {
-        refused(what, NoSuchElementException.class, call);
-    }
-
-    private static void bad(String what, Call call) {
-        refused(what, IllegalArgumentException.class, call);
-    }
-
-    /** The length of the text, which is on the tape then; blanks fill up what is fed with it. */
-    private static int put(TakerTown x, String text) {
-        for (int i = 0; i < text.length(); i += 20) {
-            int[] n = new int[5];
-            for (int j = 0; j < 20; j++) n[j / 4] = n[j / 4] << 8 | (i + j < text.length() ? text.charAt(i + j) : 32);
-            x.feed(n[0], n[1], n[2], n[3], n[4]);
-        }
-        return text.length();
-    }
-
-    private static int town(TakerTown x, String text) { return x.town(put(x, text)); }
-
-    private static int law(TakerTown x, String text) { return x.law(put(x, text)); }
-
-    private static int work(TakerTown x, String text) { return x.work(put(x, text)); }
-
-    private static int words(TakerTown x, String text) { return x.words(put(x, text)); }
-
-    private static TakerTown townOf(String text) {
-        TakerTown x = new TakerTown();
-        if (town(x, text) < 0) due("town " + text, x.fault(), -1);
-        return x;
-    }
-
-    private static TakerTown four() { return townOf(FOUR); }
 
     /** The answer and the place of a text's fault. */
     private static void faulty(String text, int got, int want, TakerTown x, int place) {
@@ -196,11 +139,6 @@ public final class PromisesTest {
         due("digits", value(x, "0000000000000000021"), 21);
         due("deepest", value(x, "1+1*most[1,".repeat(6) + "1+1*1" + "]".repeat(6)), 8);
         lawTexts();
-    }
-
-    private static int value(TakerTown x, String text) {
-        due(text, law(x, text), 1);
-        return x.would(0, 0, 0, 0, 0, 0, 0, 0);
     }
 
     private static void lawTexts() {
