@@ -112,7 +112,7 @@ public final class TakerTown {
             return text.faultAnswer();
         }
         history = new Kept(now, history);
-        plan.perform(studio, now, 0, plan.length, 0);
+        plan.perform(studio, now);
         refusedSteps = plan.refused;
         return plan.done;
     }
@@ -1275,15 +1275,19 @@ public final class TakerTown {
             return right;
         }
 
+        void perform(Studio studio, State state) {
+            performSteps(studio, state, 0, length, 0);
+        }
+
         /** Does the steps from one on to another that were read; open is how many agains these stand in. */
-        void perform(Studio studio, State state, int from, int to, int open) {
+        private void performSteps(Studio studio, State state, int from, int to, int open) {
             for (int i = from; i < to && i < MOST_TOLD && begun < MOST_BEGUN; i++) {
                 begun++;
                 if (kind[i] != AGAIN) {
                     performStep(studio, state, i);
                 } else if (open < MOST_OPEN) {
                     for (int time = 0; time < one[i] && begun < MOST_BEGUN; time++) {
-                        perform(studio, state, i + 1, two[i], open + 1);
+                        performSteps(studio, state, i + 1, two[i], open + 1);
                     }
                     i = Math.max(i, two[i] - 1);
                 }
@@ -1302,11 +1306,14 @@ public final class TakerTown {
                 case BURN:
                     could = state.burn(one[step]);
                     break;
-                default:
+                case YEAR:
                     could = state.year < LAST_YEAR;
                     if (could) {
                         state.turnYear();
                     }
+                    break;
+                default:
+                    could = false;
                     break;
             }
             if (could) {

@@ -376,6 +376,10 @@ public final class QuestionEdgesTest extends Check {
         hold(x, "0 5;2 1;", 1, 3);
         hold(x, "0 6;1 3;2 0;", -1, -1);
         hold(x, "0 6;1 3;2 1;", -1, -1);
+        TakerTown turned = townOf("person 0 0 0;person 63 0 0;");
+        for (int i = 0; i < 3; i++) hold(turned, "0 6;", 1, 1);
+        for (int i = 0; i < 3; i++) due("asked again", turned.hold(1), 1);
+        hold(turned, "", 0, 20);
         TakerTown eight = townOf("person 5 0 0;".repeat(8));
         hold(eight, "0 6;1 6;2 6;3 6;4 6;5 6;6 6;", 7, 1);
         hold(eight, "0 6;1 6;2 6;3 6;4 6;5 6;6 6;7 6;", -1, -1);
@@ -398,6 +402,9 @@ public final class QuestionEdgesTest extends Check {
         carries(x, 3, 0, 1, 3);
         work(x, "burn 0;");
         carries(x, 3, 0, 1, 2);
+        TakerTown later = townOf("person 63 0 0;person 31 0 0;person 0 0 0;person 0 0 0;person 7 0 0;like 0;");
+        work(later, "take 2 0 0;take 4 0 0;");
+        carries(later, 2, -1, -1, 0, -1, 1);
         // Plates 0 to 7 alone: the ninth would be carried by the last.
         TakerTown nine = townOf("person 0 0 0;person 63 0 0;like 0;");
         work(nine, "again 8[take 0 0 0;];take 1 1 1;");

@@ -134,6 +134,7 @@ public final class RefusalsTest extends Check {
             String answer = ask(x, q.name(), args);
             String call = q.name() + java.util.Arrays.toString(args);
             due(call + " is answered " + answer, answer.startsWith("throws") ? 1 : 0, 0);
+            due(call + ", asked again", ask(x, q.name(), args), answer);
             due(call + ": refusals", counted(x), counted);
             same(call, picture(x), untouched);
         }

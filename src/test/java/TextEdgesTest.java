@@ -24,6 +24,7 @@ public final class TextEdgesTest extends Check {
         wordsFaults();
         numbersAndBlanks();
         faultPlaces();
+        cutOff();
         end("the texts hold at their edges");
     }
 
@@ -91,6 +92,9 @@ public final class TextEdgesTest extends Check {
         right(new TakerTown(), "town", "like 6;" + " ".repeat(593), 0);
         fault("town", " ".repeat(599) + ";", -9, 599);
         fault("town", " ".repeat(596) + "like", -9, 600);
+        fault("town", " ".repeat(595) + "like1", -9, 600);
+        fault("town", " ".repeat(597) + "lik", -9, 597);
+        fault("town", " ".repeat(593) + "like  9", -8, 599);
         TakerTown x = new TakerTown();
         put(x, "like 6;like 2;");
         due("only the first n bytes", x.town(7), 0);
@@ -445,6 +449,15 @@ public final class TextEdgesTest extends Check {
         fault("words", "0 0;1 0;  00 0;", -8, 10);
         fault("words", "0 0;1 0;2 0;3 0;3", -8, 16);
         fault("words", "0 0;0", -8, 4);
+        String eight = "0 6;1 6;2 6;3 6;4 6;5 6;6 6;7 6;";
+        TakerTown x = townOf("person 9 0 0;".repeat(8));
+        right(x, "words", eight, 8);
+        due("a ninth line is of one twice", words(x, eight + "7 6;"), -8);
+        due("at its place", x.fault(), 32);
+        due("or of none", words(x, eight + " 8 6;"), -8);
+        due("at its place", x.fault(), 33);
+        due("or can't stand there", words(x, eight + ";"), -9);
+        due("at its place", x.fault(), 32);
         fault("words", " ".repeat(59) + ";", -9, 59);
         fault("words", " ".repeat(56) + "0 0 ", -9, 60);
         String[] texts = {";", "0", "0;", "0 1", "0 1  ", "0 1;;", "0 1 2;", "a 1;", "0 a;", "0,1;", "-1 0;", "0 -1;", "0 1;x", "0 1;1"};
@@ -519,5 +532,54 @@ public final class TextEdgesTest extends Check {
         due("it stays", x.fault(), 2);
         due("a town", x.town(0), 0);
         due("has none", x.fault(), TakerTown.NONE);
+    }
+
+    /** Bytes of the tape behind the first n are not looked at, also if they would go on rightly. */
+    private static void cut(String name, String text, int n, int answer, int place) {
+        TakerTown x = standing();
+        put(x, text);
+        due(name + "(" + n + ") of " + text, ask(x, name, n), "" + answer);
+        due("place of its fault", x.fault(), place);
+        due("tape", x.count(1), 0);
+    }
+
+    private static void cutOff() {
+        current = "cut off by n";
+        cut("town", "like 1;", 7, 0, -1);
+        cut("town", "like 1;", 6, -9, 6);
+        cut("town", "like 1;", 5, -9, 5);
+        cut("town", "like 1;", 4, -9, 4);
+        cut("town", "like 1;", 3, -9, 0);
+        cut("town", "like 1;like 9;", 7, 0, -1);
+        cut("town", "person 1 1 40;", 12, -9, 12);
+        cut("town", "person 1 1 400;", 13, -9, 13);
+        cut("town", "person 1 1 1;person", 13, 1, -1);
+        cut("law", "(1)", 2, -9, 2);
+        cut("law", "1+1", 2, -9, 2);
+        cut("law", "1+1", 1, 1, -1);
+        cut("law", "9999", 3, 1, -1);
+        cut("law", "face+faces", 9, 1, -1);
+        cut("law", "least[1,1]", 9, -9, 9);
+        cut("law", "least[1,1]", 7, -9, 7);
+        cut("law", "least[1,1]", 5, -9, 5);
+        cut("law", "((((((1))))))", 6, -9, 6);
+        cut("work", "year;", 4, -9, 4);
+        cut("work", "year;year;", 5, 1, -1);
+        cut("work", "burn 55;", 6, -9, 6);
+        cut("work", "again 1[year;];", 14, -9, 14);
+        cut("work", "again 1[year;];", 13, -9, 13);
+        cut("work", "again 1[year;];", 7, -9, 7);
+        cut("words", "0 6;1 6;", 4, 1, -1);
+        cut("words", "0 6;", 3, -9, 3);
+        cut("words", "0 6;", 1, -9, 1);
+        cut("words", "0 66;", 3, -9, 3);
+        // A text that was longer has been there ahead of this one.
+        TakerTown x = new TakerTown();
+        due("longer", town(x, "like 1;like 2;like 3;"), 0);
+        put(x, "like 4");
+        due("shorter", x.town(6), -9);
+        due("at its end", x.fault(), 6);
+        due("empty", x.town(0), 0);
+        due("K", x.told(3), 1);
     }
 }
