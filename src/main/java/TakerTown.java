@@ -1046,8 +1046,8 @@ public final class TakerTown {
                 case TIMES: return one * other;
                 case BY: return other == 0 ? 0 : one / other;
                 case LEFT: return other == 0 ? 0 : one % other;
-                case LEAST: return Math.min(one, other);
-                default: return Math.max(one, other);
+                case LEAST: return one < other ? one : other;
+                default: return one > other ? one : other;
             }
         }
     }
