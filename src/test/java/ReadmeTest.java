@@ -26,12 +26,10 @@ public final class ReadmeTest extends Check {
     public static void main(String[] args) throws Exception {
         current = "README.md";
         String page = Files.readString(Path.of("README.md"));
-        Matcher block = BLOCK.matcher(page);
-        due("the helper's block", block.find() ? 1 : 0, 1);
-        String helper = block.group(1);
-        due("the block of calls", block.find() ? 1 : 0, 1);
-        calls(helper, block.group(1));
-        due("blocks more", block.find() ? 1 : 0, 0);
+        List<String> blocks = new ArrayList<>();
+        for (Matcher block = BLOCK.matcher(page); block.find();) blocks.add(block.group(1));
+        due("blocks of Java: the helper and the calls", blocks.size(), 2);
+        if (blocks.size() == 2) calls(blocks.get(0), blocks.get(1));
         due("the command that runs all tests", page.contains("```sh\n.ci/run\n```") ? 1 : 0, 1);
         due("it can be run", Files.isExecutable(Path.of(".ci/run")) ? 1 : 0, 1);
         names(page);
